@@ -44,6 +44,8 @@ public final class WeaveShares {
     private final Hall[] saved = new Hall[MOST_SAVED];
     private final int[] buffer = new int[MOST_CODES];
     private final OrderReader reader = new OrderReader();
+    /** Behind how many hours the order at each place would be done; written anew by each use. */
+    private final int[] ends = new int[MOST_ORDERS];
     private int savedCount;
     private int bufferLength;
 
@@ -301,10 +303,12 @@ public final class WeaveShares {
     }
 
     public int doneIn(int number) throws IndexOutOfBoundsException {
-        if (hall.find(number) == null) {
+        int place = hall.placeOf(number);
+        if (!isWithin(place, 0, MOST_ORDERS - 1)) {
             throw new IndexOutOfBoundsException("no such order");
         }
-        return hoursUntilDone(number);
+        foreseeEnds();
+        return ends[place];
     }
 
     public int bestRule(int hours) throws IllegalArgumentException {
@@ -427,19 +431,29 @@ public final class WeaveShares {
         }
     }
 
-    private int hoursUntilDone(int number) {
+    private void foreseeEnds() {
         trial.copyFrom(hall);
-        for (int i = 1; i <= MOST_FORESEEN; i++) {
-            int woven = trial.passHour();
-            if (trial.find(number) == null) {
-                return i;
-            }
+        for (int i = 0; i < ends.length; i++) {
+            ends[i] = NONE;
+        }
+        boolean weaves = true;
+        for (int i = 1; i <= MOST_FORESEEN && weaves; i++) {
+            int before = trial.done;
             // An hour in which nothing is woven is like all that follow.
-            if (woven == 0) {
-                return NONE;
+            weaves = trial.passHour() > 0;
+            if (trial.done != before) {
+                noteEnds(i);
             }
         }
-        return NONE;
+    }
+
+    private void noteEnds(int hours) {
+        for (int i = 0; i < ends.length; i++) {
+            Order order = hall.orderAt(i);
+            if (order != null && ends[i] == NONE && trial.placeOf(order.number) == NONE) {
+                ends[i] = hours;
+            }
+        }
     }
 
     private int bestRuleFor(int hours) {
@@ -494,6 +508,7 @@ public final class WeaveShares {
 
     private long hashOrders(long start) {
         long hash = start;
+        foreseeEnds();
         for (int i = 0; i < hall.orderCount && i < MOST_ORDERS; i++) {
             Order order = hall.orders[i];
             for (int k = 0; k < ORDER_PROPERTIES; k++) {
@@ -502,7 +517,7 @@ public final class WeaveShares {
             for (int k = 0; k < WEAVERS; k++) {
                 hash = mixed(hash, order.goodBy[k]);
             }
-            hash = mixed(hash, hoursUntilDone(order.number));
+            hash = mixed(hash, ends[i]);
             hash = mixed(hash, hall.dueOf(order, 0));
         }
         return hash;
@@ -753,13 +768,17 @@ public final class WeaveShares {
             return stands ? orders[place] : null;
         }
 
-        Order find(int number) {
+        int placeOf(int number) {
             for (int i = 0; i < orderCount && i < orders.length; i++) {
                 if (orders[i].number == number) {
-                    return orders[i];
+                    return i;
                 }
             }
-            return null;
+            return NONE;
+        }
+
+        Order find(int number) {
+            return orderAt(placeOf(number));
         }
 
         /** Answers the number of the new order, NONE if there is no room for it. */

@@ -17,8 +17,10 @@ public final class ForecastTest {
         dueNow();
         dueNowShared();
         evenness();
+        evennessOfOne();
         evennessBits();
         digest();
+        digestOfHours();
         digestOfNew();
         Check.end("ForecastTest");
     }
@@ -264,6 +266,16 @@ public final class ForecastTest {
         Check.due("a loom that earned nothing, alone", x.evenness(), 1.0);
     }
 
+    private static void evennessOfOne() {
+        WeaveShares x = new WeaveShares();
+        x.loom(0, 100, 3, 0);
+        x.loom(1, 100, 1, 0);
+        x.yarn(0, 0, 100);
+        x.order(0, 50, 1, 1, 9);
+        x.pass(1);
+        Check.due("1 and 0", x.evenness(), 0.0);
+    }
+
     /** The digest holds the bits of evenness: here of many ratios. */
     private static void evennessBits() {
         for (int price = 1; price <= 99; price++) {
@@ -297,6 +309,18 @@ public final class ForecastTest {
         Check.due("digest()", y.digest(), Digest.of(y, ""));
         y.undo();
         Check.due("digest() behind undo", y.digest(), Digest.of(y, ""));
+    }
+
+    /** With an order that is done in any hour, the digest tells 20 hours from 19 and from 21. */
+    private static void digestOfHours() {
+        for (int length = 10; length <= 22; length++) {
+            WeaveShares x = new WeaveShares();
+            x.loom(0, 60, 1, 0);
+            x.yarn(0, 0, 999);
+            x.order(0, 50, length, 7, 1);
+            x.order(0, 60, length, 8, 1);
+            Check.due("digest() with a length of " + length, x.digest(), Digest.of(x, ""));
+        }
     }
 
     private static void digestOfNew() {

@@ -48,7 +48,11 @@ public final class OrderTest {
         Check.index("the eleventh order, no colour", x, () -> x.order(4, 39, 1, 1, 0));
         x.cancel(7);
         Check.due("order behind a cancelled one", x.order(0, 40, 1, 1, 0), 10);
-        Check.due("its place", x.orderOf(2, 0), 10);
+        int[] then = {0, 3, 10, 5, 6, 8, 9, 2, 4, 1};
+        for (int i = 0; i < then.length; i++) {
+            Check.due("number then at " + i, x.orderOf(i, 0), then[i]);
+        }
+        Check.state("again an eleventh order", x, () -> x.order(0, 40, 1, 1, 0));
     }
 
     private static void orderRefused() {
@@ -99,10 +103,15 @@ public final class OrderTest {
         }
         Check.due("cancel(0)", x.cancel(0), 0);
         Check.index("cancel(0) again", x, () -> x.cancel(0));
-        // An order that stands where a cancelled one stood has nothing woven.
-        x.order(0, 50, 20, 5, 5);
-        Check.due("good", x.orderOf(0, 6), 0);
-        Check.due("wovenBy(0, 0)", x.wovenBy(0, 0), 0);
+        // Nothing is woven of a new order, wherever it is kept.
+        for (int i = 0; i < 10; i++) {
+            x.order(0, 50, 20, 5, i);
+        }
+        for (int i = 0; i < 10; i++) {
+            Check.due("good at " + i, x.orderOf(i, 6), 0);
+            Check.due("wovenBy(" + i + ", 0)", x.wovenBy(i, 0), 0);
+            Check.due("wovenBy(" + i + ", 2)", x.wovenBy(i, 2), 0);
+        }
     }
 
     private static void set() {
@@ -392,6 +401,13 @@ public final class OrderTest {
         Check.due("1", y.weaver(1, 4), 15);
         Check.due("2", y.weaver(2, 4), 13);
         Check.due("evenness", y.evenness(), 6.0 / 15.0);
+        // 34 for 2, 2 and 1 of 5.
+        WeaveShares z = splitBy(2, 2, 1);
+        z.order(0, 50, 5, 7, 0);
+        Check.due("pass(1)", z.pass(1), 1);
+        Check.due("0", z.weaver(0, 4), 15);
+        Check.due("1", z.weaver(1, 4), 13);
+        Check.due("2", z.weaver(2, 4), 6);
     }
 
     private static WeaveShares splitBy(int first, int second, int third) {

@@ -154,6 +154,11 @@ public final class YarnTest {
         Check.due("give(1, 4, 2, 1)", x.give(1, 4, 2, 1), 9999);
         Check.state("give(1, 4, 2, 1), too many", x, () -> x.give(1, 4, 2, 1));
         Check.due("count(8)", x.count(8), 0);
+        Check.due("give(4, 5, 2, 3)", x.give(4, 5, 2, 3), 3);
+        Check.due("give(5, 0, 2, 2)", x.give(5, 0, 2, 2), 2);
+        Check.due("give(0, 3, 2, 1)", x.give(0, 3, 2, 1), 1);
+        Check.due("share(5, 2)", x.share(5, 2), 1);
+        Check.due("share(0, 2)", x.share(0, 2), 1);
     }
 
     private static void giveRefused() {
@@ -172,6 +177,9 @@ public final class YarnTest {
         Check.index("give(-1, 0, 2, 1)", x, () -> x.give(-1, 0, 2, 1));
         Check.index("give(1, -1, 2, 1)", x, () -> x.give(1, -1, 2, 1));
         Check.index("give(1, 6, 2, 1)", x, () -> x.give(1, 6, 2, 1));
+        Check.index("give(6, 0, 2, 1)", x, () -> x.give(6, 0, 2, 1));
+        Check.index("give(7, 0, 2, 1)", x, () -> x.give(7, 0, 2, 1));
+        Check.index("give(0, 7, 2, 1)", x, () -> x.give(0, 7, 2, 1));
         Check.index("give(1, 0, -1, 1)", x, () -> x.give(1, 0, -1, 1));
         Check.index("give(1, 0, 4, 1)", x, () -> x.give(1, 0, 4, 1));
         Check.index("give(1, 1, 4, 1)", x, () -> x.give(1, 1, 4, 1));
