@@ -89,7 +89,7 @@ public final class OrderTest {
         x.order(0, 50, 20, 5, 5);
         x.order(0, 50, 20, 5, 4);
         x.pass(1);
-        Check.undoable("cancel(1)", x, () -> x.cancel(1), 6);
+        Check.due("cancel(1)", x.cancel(1), 6);
         Check.due("orders", x.count(1), 1);
         Check.due("orders done", x.count(2), 0);
         Check.due("paid", x.count(4), 0);
@@ -115,22 +115,25 @@ public final class OrderTest {
     }
 
     private static void set() {
-        WeaveShares x = new WeaveShares();
         int[] first = {0, 1, 5, 1};
         int[] most = {2, 1, 50, 9};
         for (int i = 0; i < 4; i++) {
             int setting = i;
+            WeaveShares x = new WeaveShares();
             Check.undoable("set(" + i + ", most)", x, () -> x.set(setting, most[setting]), first[i]);
             Check.due("setting(" + i + ")", x.setting(i), most[i]);
-            x.set(i, 0);
-            Check.undoable("set(" + i + ", 0)", x, () -> x.set(setting, 0), 0);
-            x.set(i, first[i]);
+            Check.due("set(" + i + ", 0)", x.set(i, 0), most[i]);
+            Check.undoable("set(" + i + ", 0) again", x, () -> x.set(setting, 0), 0);
+            for (int k = 0; k < 4; k++) {
+                Check.due("setting(" + k + ")", x.setting(k), k == i ? 0 : first[k]);
+            }
             int[] wrong = {Integer.MIN_VALUE, -1, most[i] + 1, Integer.MAX_VALUE};
             for (int value : wrong) {
                 Check.argument("set(" + i + ", " + value + ")", x, () -> x.set(setting, value));
             }
         }
         int[] none = {Integer.MIN_VALUE, -1, 4, Integer.MAX_VALUE};
+        WeaveShares x = new WeaveShares();
         for (int setting : none) {
             Check.index("set(" + setting + ", 0)", x, () -> x.set(setting, 0));
             Check.index("set(" + setting + ", -1)", x, () -> x.set(setting, -1));
@@ -463,6 +466,11 @@ public final class OrderTest {
     }
 
     private static void passUndone() {
+        Check.undoes("pass(7)", OrderTest::threeLooms, x -> x.pass(7), 1);
+        Check.undoes("pass(1), changing nothing but the hour", WeaveShares::new, x -> x.pass(1), 0);
+    }
+
+    private static WeaveShares threeLooms() {
         WeaveShares x = new WeaveShares();
         x.loom(0, 100, 5, 2);
         x.loom(1, 60, 3, 0);
@@ -472,7 +480,6 @@ public final class OrderTest {
         x.order(0, 60, 20, 7, 1);
         x.order(1, 55, 10, 9, 0);
         x.order(0, 70, 30, 9, 0);
-        Check.undoable("pass(7)", x, () -> x.pass(7), 1);
-        Check.undoable("pass(1), changing nothing but the hour", x, () -> x.pass(1), 0);
+        return x;
     }
 }
