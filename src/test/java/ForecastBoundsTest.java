@@ -26,6 +26,7 @@ public final class ForecastBoundsTest {
         Check.sentence("4: orders that would be late of those that would be done",
                 ForecastBoundsTest::lateOfThem);
         Check.sentence("ifPassed: Returns the number.", ForecastBoundsTest::nothingToCome);
+        Check.sentence("Tells what hours would bring", ForecastBoundsTest::hoursOfFaults);
     }
 
     private static void doneIn() {
@@ -33,6 +34,8 @@ public final class ForecastBoundsTest {
                 ForecastBoundsTest::behindHours);
         Check.sentence("Tells when an order would be done, if only hours pass.",
                 ForecastBoundsTest::ifOnlyHoursPass);
+        Check.sentence("Tells when an order would be done, if only hours pass.",
+                ForecastBoundsTest::withoutTheStore);
         Check.sentence("doneIn: if there is no such order", ForecastBoundsTest::doneInRefused);
     }
 
@@ -146,6 +149,11 @@ public final class ForecastBoundsTest {
             }
         }
         Check.due("ifPassed(200, 0) at 9999", x.ifPassed(200, 0), 1);
+        // Of the other calls no limit is told.
+        Check.due("doneIn(0) at 9999", x.doneIn(0), 3);
+        x.order(0, 60, 1, 1, 9999);
+        Check.due("bestRule(1) at 9999", x.bestRule(1), 1);
+        x.undo();
         Check.due("hours", x.count(0), 9999);
         WeaveShares y = Made.at(9998);
         y.loom(0, 60, 1, 0);
@@ -228,6 +236,24 @@ public final class ForecastBoundsTest {
         }
     }
 
+    /** Hours of faults, and looms that stand still, do not end what the others bring. */
+    private static void hoursOfFaults() {
+        WeaveShares x = Made.weaving(1, 2);
+        x.loom(1, 40, 9, 0);
+        x.order(0, 50, 5, 1, 99);
+        // Five good ones with four faults between them.
+        int[][] want = {{1, 0, 0}, {2, 0, 1}, {8, 0, 4}, {9, 1, 4}, {10, 1, 4}};
+        for (int[] one : want) {
+            Check.due("ifPassed(" + one[0] + ", 0)", x.ifPassed(one[0], 0), one[1]);
+            Check.due("ifPassed(" + one[0] + ", 1)", x.ifPassed(one[0], 1), 5 * one[1]);
+            Check.due("ifPassed(" + one[0] + ", 2)", x.ifPassed(one[0], 2), one[2]);
+        }
+        Check.due("doneIn(0)", x.doneIn(0), 9);
+        x.order(0, 60, 5, 2, 99);
+        Check.due("bestRule(8) of nothing", x.bestRule(8), 0);
+        Check.due("bestRule(9) of 5 and 10", x.bestRule(9), 1);
+    }
+
     private static void behindHours() {
         for (int hours : new int[] {1, 2, 99, 100, 199, 200}) {
             WeaveShares x = doneBehind(hours);
@@ -270,6 +296,22 @@ public final class ForecastBoundsTest {
         x.order(0, 40, 1, 1, 0);
         Check.due("doneIn with another rule", x.doneIn(1), 1);
         Check.due("doneIn with another rule, of a narrow one", x.doneIn(2), NONE);
+    }
+
+    private static void withoutTheStore() {
+        WeaveShares x = new WeaveShares();
+        x.loom(0, 60, 1, 0);
+        x.store(0, 5);
+        x.yarn(0, 1, 6);
+        x.order(0, 50, 1, 9, 0);
+        x.order(1, 60, 1, 2, 1);
+        Check.due("ifPassed(1, 1)", x.ifPassed(1, 1), 9);
+        Check.due("doneIn(0)", x.doneIn(0), 1);
+        Check.due("bestRule(1)", x.bestRule(1), 0);
+        x.set(1, 0);
+        Check.due("ifPassed(1, 1) when the store does not lend", x.ifPassed(1, 1), 0);
+        Check.due("doneIn(0) when the store does not lend", x.doneIn(0), NONE);
+        Check.due("bestRule(1) when the store does not lend", x.bestRule(1), 1);
     }
 
     private static void doneInRefused() {
@@ -510,6 +552,14 @@ public final class ForecastBoundsTest {
         y.order(0, 50, 4, 7, 0);
         y.pass(1);
         Check.due("evenness() of 7 and 21", y.evenness(), 7.0 / 21.0);
+        // The least that can be earned is not 0.
+        WeaveShares z = new WeaveShares();
+        z.loom(0, 50, 1, 0);
+        z.loom(5, 50, 1, 0);
+        z.yarn(0, 0, 99);
+        z.order(0, 50, 1, 1, 0);
+        z.pass(1);
+        Check.due("evenness() of 1 and 0", z.evenness(), 0.0);
     }
 
     private static void digestOfNew() {

@@ -46,6 +46,8 @@ public final class HourBoundsTest {
     }
 
     private static void faults() {
+        Check.sentence("Each decimetre that is woven counts for the weaver",
+                HourBoundsTest::eachCounts);
         Check.sentence("if the care is above 0", HourBoundsTest::careOfZero);
         Check.sentence("that the weaver has woven so far, this one included, are divisible by the care",
                 HourBoundsTest::divisibleByTheCare);
@@ -345,6 +347,10 @@ public final class HourBoundsTest {
         x.pass(1);
         Check.due("debt behind own yarn", x.weaver(1, 3), 48);
         Check.due("store", x.share(STORE, 2), 51);
+        x.yarn(0, 2, 99);
+        x.give(0, 1, 2, 99);
+        x.give(1, 0, 2, 9);
+        Check.due("debt behind given yarn", x.weaver(1, 3), 48);
     }
 
     private static void storeHasEnough() {
@@ -408,6 +414,20 @@ public final class HourBoundsTest {
             Check.due("of the other one with rule " + rule, x.orderOf(1, 6), 0);
             Check.due("next(1, 0), still, with rule " + rule, x.next(1, 0), 0);
             Check.due("next(1, 1) with rule " + rule, x.next(1, 1), 3);
+        }
+    }
+
+    private static void eachCounts() {
+        for (int care = 0; care <= 3; care++) {
+            WeaveShares x = Made.weaving(3, care);
+            x.loom(5, 50, 2, care);
+            x.store(0, 99);
+            x.order(0, 50, 200, 1, 0);
+            x.pass(4);
+            Check.due("woven by 0, with a care of " + care, x.weaver(0, 5), 12);
+            Check.due("woven by 5, with a care of " + care, x.weaver(5, 5), 8);
+            Check.due("woven by 1", x.weaver(1, 5), 0);
+            Check.due("woven by all", x.count(5), 20);
         }
     }
 

@@ -27,6 +27,7 @@ public final class PayBoundsTest {
         Check.sentence("what is left over goes to the weaver with most good decimetres of it",
                 PayBoundsTest::leftOver);
         Check.sentence("of several the lowest", PayBoundsTest::leftOverOfSeveral);
+        Check.sentence("divisions are rounded down", PayBoundsTest::roundedDown);
     }
 
     private static void debts() {
@@ -233,6 +234,25 @@ public final class PayBoundsTest {
         earned(splitBy(7, 1, 2, 1, 2), 15, 6, 13);
         earned(splitBy(3, 2, 1, 1, 1, 1, 1, 1), 7, 2, 2, 2, 2, 2);
         earned(splitBy(3, 2, 0, 0, 3, 0, 0, 3), 0, 0, 9, 0, 0, 8);
+    }
+
+    private static void roundedDown() {
+        // 19 hundredths, 99 hundredths and a whole one of the late cost.
+        int[][] lates = {{19, 1}, {20, 0}};
+        for (int[] one : lates) {
+            WeaveShares x = Made.at(one[0]);
+            x.loom(0, 50, 1, 0);
+            x.yarn(0, 0, 5);
+            x.order(0, 50, 1, 1, 0);
+            x.pass(1);
+            Check.due("paid for 1 at " + one[0], x.count(4), one[1]);
+        }
+        paidAt(1, 0, 1, 99, 1);
+        paidAt(2, 0, 1, 98, 1);
+        // 11 for one and two of three are 3 and 7, and one is left over.
+        earned(splitBy(4, 2, 1, 2), 3, 8);
+        // 20 pay for two grams of debt at 9.
+        owes(4, 9, 23, 2);
     }
 
     /** Weaver 0 owes 25 grams, and is paid as much for one order of five. */

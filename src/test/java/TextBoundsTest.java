@@ -30,7 +30,8 @@ public final class TextBoundsTest {
         Check.sentence("perhaps \"$\" and a price, 1 to 99", () -> numbers("1x40c0$", "", 4, 1, 99));
         Check.sentence("perhaps \"@\" and a due hour, 0 to 9999",
                 () -> numbers("1x40c0@", "", 5, 0, 9999));
-        Check.sentence("(10 without it), (9999 without it)", TextBoundsTest::withoutThem);
+        Check.sentence("(10 without it)", TextBoundsTest::usualPrice);
+        Check.sentence("(9999 without it)", TextBoundsTest::usualDueHour);
         Check.sentence("numbers are without leading zeros", TextBoundsTest::leadingZeros);
     }
 
@@ -117,6 +118,16 @@ public final class TextBoundsTest {
         Check.due("firstError() of 5", y.firstError(), 1);
         Check.append(y, "x50c1");
         Check.due("takeAll()", y.takeAll(), 1);
+        Check.refusesArgument("takeAll() of what lacks what was cleared", () -> {
+            WeaveShares x = Made.buffered("1x40c0");
+            x.clearBuffer();
+            Check.append(x, "1x40c");
+            return x;
+        }, WeaveShares::takeAll);
+        WeaveShares z = Made.buffered("1x40c0;");
+        z.clearBuffer();
+        Check.append(z, "1x40c0");
+        Check.due("takeAll() without the cleared \";\"", z.takeAll(), 1);
     }
 
     private static void error(String text, int want) {
@@ -174,15 +185,30 @@ public final class TextBoundsTest {
         }
     }
 
-    private static void withoutThem() {
+    /** Of parts with and without the numbers, in the order in which they stand in the text. */
+    private static void usual(int what, int... want) {
+        // All have the same width but another length, from 1.
         WeaveShares x = Made.buffered("1x40c0;2x40c0$99;3x40c0@9998;4x40c0$1@0;5x40c0");
         Check.due("takeAll()", x.takeAll(), 5);
-        int[][] want = {{4, 1, 0}, {3, 10, 9998}, {1, 10, 9999}, {2, 99, 9999}, {5, 10, 9999}};
         for (int place = 0; place < 5; place++) {
-            Check.due("length at " + place, x.orderOf(place, 3), want[place][0]);
-            Check.due("price at " + place, x.orderOf(place, 4), want[place][1]);
-            Check.due("due hour at " + place, x.orderOf(place, 5), want[place][2]);
+            int part = x.orderOf(place, 3);
+            Check.due("orderOf(" + place + ", " + what + "), part " + part, x.orderOf(place, what),
+                    want[part - 1]);
         }
+    }
+
+    private static void usualPrice() {
+        usual(4, 10, 99, 10, 1, 10);
+        WeaveShares x = Made.buffered("7x40c1@5");
+        x.takeAll();
+        Check.due("price of an only part", x.orderOf(0, 4), 10);
+    }
+
+    private static void usualDueHour() {
+        usual(5, 9999, 9999, 9998, 0, 9999);
+        WeaveShares x = Made.buffered("7x40c1$5");
+        x.takeAll();
+        Check.due("due hour of an only part", x.orderOf(0, 5), 9999);
     }
 
     private static void leadingZeros() {

@@ -20,6 +20,8 @@ public final class WeaverBoundsTest {
         Check.sentence("what was earned so far", WeaverBoundsTest::earnedAtFirst);
         Check.sentence("The store has yarn of each colour, 0 to 99999, at first 0.",
                 WeaverBoundsTest::storeBounds);
+        noSuchWeaver();
+        noSuchColour();
         loomSentences();
         yarnSentences();
         Check.end("WeaverBoundsTest");
@@ -46,7 +48,7 @@ public final class WeaverBoundsTest {
         Check.sentence("give: `grams`: 1 to 9999", WeaverBoundsTest::giveGrams);
         Check.sentence("if both weavers are the same", WeaverBoundsTest::giveToItself);
         Check.sentence("if a share would be below 0", WeaverBoundsTest::giveBelowZero);
-        Check.sentence("if a share would be above 9999", WeaverBoundsTest::giveAboveMost);
+        Check.sentence("give: or above 9999", WeaverBoundsTest::giveAboveMost);
         Check.sentence("Returns the share of the other one then.", WeaverBoundsTest::giveAnswers);
     }
 
@@ -84,18 +86,26 @@ public final class WeaverBoundsTest {
             Check.due("share(" + w + ", 1)", x.share(w, 1), 10);
             Check.due("dueNow(0, " + w + ")", x.dueNow(0, w), 10);
         }
-        int[] no = Made.NO_WEAVER;
-        Check.indexEach("loom", Made::busy, no, (x, w) -> x.loom(w, 100, 2, 0));
-        Check.indexEach("loom of none", Made::busy, no, (x, w) -> x.loom(w, 0, 0, 0));
-        Check.indexEach("yarn", Made::busy, no, (x, w) -> x.yarn(w, 0, 1));
-        Check.indexEach("give by", Made::busy, no, (x, w) -> x.give(w, 0, 0, 1));
-        Check.indexEach("give to", Made::busy, no, (x, w) -> x.give(0, w, 0, 1));
-        Check.indexEach("weaver", Made::busy, no, (x, w) -> x.weaver(w, 0));
-        Check.indexEach("wovenBy", Made::busy, no, (x, w) -> x.wovenBy(0, w));
-        Check.indexEach("next", Made::busy, no, (x, w) -> x.next(w, 0));
-        Check.indexEach("dueNow", Made::busy, no, (x, w) -> x.dueNow(0, w));
+    }
+
+    private static void noWeaver(String call, Check.OnWith body) {
+        Check.sentence(call + ": if there is no such weaver",
+                () -> Check.indexEach(call, Made::busy, Made.NO_WEAVER, body));
+    }
+
+    private static void noSuchWeaver() {
+        noWeaver("loom", (x, w) -> x.loom(w, 100, 2, 0));
+        noWeaver("loom of none", (x, w) -> x.loom(w, 0, 0, 0));
+        noWeaver("yarn", (x, w) -> x.yarn(w, 0, 1));
+        noWeaver("give by", (x, w) -> x.give(w, 0, 0, 1));
+        noWeaver("give to", (x, w) -> x.give(0, w, 0, 1));
+        noWeaver("weaver", (x, w) -> x.weaver(w, 0));
+        noWeaver("wovenBy", (x, w) -> x.wovenBy(0, w));
+        noWeaver("next", (x, w) -> x.next(w, 0));
+        noWeaver("dueNow", (x, w) -> x.dueNow(0, w));
         // -1 is NONE, which names the store.
-        Check.indexEach("share", Made::busy, new int[] {no[0], -2, 6, no[3]}, (x, w) -> x.share(w, 0));
+        Check.sentence("share: if there is no such weaver", () -> Check.indexEach("share", Made::busy,
+                new int[] {Integer.MIN_VALUE, -2, 6, Integer.MAX_VALUE}, (x, w) -> x.share(w, 0)));
     }
 
     private static void noLoomAtFirst() {
@@ -174,13 +184,20 @@ public final class WeaverBoundsTest {
                 Check.due("share(2, " + other + ")", x.share(2, other), left);
             }
         }
-        int[] no = Made.NO_COLOUR;
-        Check.indexEach("yarn", Made::busy, no, (x, c) -> x.yarn(0, c, 1));
-        Check.indexEach("store", Made::busy, no, (x, c) -> x.store(c, 1));
-        Check.indexEach("give", Made::busy, no, (x, c) -> x.give(0, 1, c, 1));
-        Check.indexEach("order", Made::busy, no, (x, c) -> x.order(c, 50, 5, 5, 5));
-        Check.indexEach("share", Made::busy, no, (x, c) -> x.share(0, c));
-        Check.indexEach("share of the store", Made::busy, no, (x, c) -> x.share(WeaveShares.NONE, c));
+    }
+
+    private static void noColour(String call, Check.OnWith body) {
+        Check.sentence(call + ": if there is no such colour",
+                () -> Check.indexEach(call, Made::busy, Made.NO_COLOUR, body));
+    }
+
+    private static void noSuchColour() {
+        noColour("yarn", (x, c) -> x.yarn(0, c, 1));
+        noColour("store", (x, c) -> x.store(c, 1));
+        noColour("give", (x, c) -> x.give(0, 1, c, 1));
+        noColour("order", (x, c) -> x.order(c, 50, 5, 5, 5));
+        noColour("share", (x, c) -> x.share(0, c));
+        noColour("share of the store", (x, c) -> x.share(WeaveShares.NONE, c));
     }
 
     private static void shareBounds() {
