@@ -264,6 +264,14 @@ public final class ForecastBoundsTest {
         Check.due("doneIn of the one before it", x.doneIn(1), 1);
         x.pass(1);
         Check.due("doneIn of 201, an hour later", x.doneIn(0), 200);
+        // Ten orders of one decimetre each.
+        WeaveShares ten = Made.weaving(1, 0);
+        for (int i = 0; i < 10; i++) {
+            ten.order(0, 40, 1, 1, i);
+        }
+        for (int i = 0; i < 10; i++) {
+            Check.due("doneIn(" + i + ") of ten", ten.doneIn(i), i + 1);
+        }
         // By a fault: the 99th is one, so that 199 decimetres take 201 hours, and 198 take 200.
         for (int length : new int[] {197, 198, 199}) {
             WeaveShares y = Made.weaving(1, 99);

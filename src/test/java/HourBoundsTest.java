@@ -163,6 +163,16 @@ public final class HourBoundsTest {
             x.pass(1);
             Check.due(call + ": woven", x.count(5), one[2] + 1);
         }
+        // Of ten orders the last one alone fits.
+        WeaveShares ten = new WeaveShares();
+        ten.loom(5, 50, 1, 0);
+        ten.yarn(5, 1, 99);
+        for (int i = 0; i < 10; i++) {
+            ten.order(1, i < 9 ? 51 : 50, 2, 1, i);
+        }
+        Check.due("next(5, 0) of ten", ten.next(5, 0), 9);
+        Check.due("pass(2) of ten", ten.pass(2), 1);
+        Check.due("woven of ten", ten.weaver(5, 5), 2);
         // What is too wide is left out, whatever the rule.
         for (int rule = 0; rule < 3; rule++) {
             WeaveShares x = new WeaveShares();

@@ -22,13 +22,14 @@ final class Made {
         return x;
     }
 
-    /** Ten orders, the first of them begun by three weavers; two of the loomed ones are idle. */
+    /** Ten orders, the first of them begun by four weavers; weaver 4 has too narrow a loom. */
     static WeaveShares full() {
         WeaveShares x = new WeaveShares();
         x.loom(0, 60, 3, 2);
         x.loom(1, 50, 2, 0);
         x.loom(3, 200, 4, 0);
         x.loom(4, 45, 1, 0);
+        x.loom(5, 55, 2, 3);
         x.store(0, 200);
         x.yarn(3, 0, 11);
         for (int i = 0; i < 10; i++) {

@@ -57,8 +57,10 @@ public final class TextBoundsTest {
         WeaveShares x = Made.buffered(SIXTY);
         Check.due("firstError() of sixty", x.firstError(), 60);
         Check.due("takeAll() of sixty", x.takeAll(), 8);
-        Check.due("the last one's due hour", x.orderOf(7, 5), 9999);
-        Check.due("orders", x.count(1), 8);
+        for (int place = 0; place < 8; place++) {
+            Check.due("number at " + place, x.orderOf(place, 0), place);
+            Check.due("due hour at " + place, x.orderOf(place, 5), 9999);
+        }
         Check.due("append to the cleared buffer", x.append('1'), 1);
         // The sixtieth character counts: it is the error here, or what is missing.
         String most = SIXTY.substring(0, 59);

@@ -325,11 +325,9 @@ public final class UndoBoundsTest {
     private static void allIsRestored() {
         Check.undoes("pass(99), of looms, orders, faults, debts and pay", UndoBoundsTest::rich,
                 x -> x.pass(99), 4);
-        Check.undoes("cancel(1), of what is woven", () -> {
-            WeaveShares x = rich();
-            x.pass(2);
-            return x;
-        }, x -> x.cancel(1), 6);
+        Check.undoes("pass(1)", UndoBoundsTest::rich, x -> x.pass(1), 0);
+        Check.undoes("pass(1), which ends orders", UndoBoundsTest::richThen, x -> x.pass(1), 2);
+        Check.undoes("cancel(2), of what is woven", UndoBoundsTest::richThen, x -> x.cancel(2), 22);
         WeaveShares x = rich();
         x.pass(99);
         Check.due("done", x.count(2), 4);
@@ -339,21 +337,29 @@ public final class UndoBoundsTest {
             Check.due("count(" + what + ") behind undo", x.count(what), 0);
         }
         Check.due("orders behind undo", x.count(1), 4);
-        Check.due("share behind undo", x.share(1, 1), 100);
+        Check.due("share behind undo", x.share(1, 1), 80);
         Check.due("store behind undo", x.share(STORE, 0), 900);
     }
 
+    /** All six weave, by their own yarn or the store's. */
     private static WeaveShares rich() {
         WeaveShares x = new WeaveShares();
-        x.loom(0, 100, 5, 7);
-        x.loom(1, 60, 3, 0);
-        x.loom(2, 50, 3, 3);
+        for (int w = 0; w < 6; w++) {
+            x.loom(w, w < 3 ? 60 : 50, 1 + w % 3, 2 + w);
+            x.yarn(w, w % 2, 100 - 20 * w);
+        }
         x.store(0, 900);
-        x.yarn(1, 1, 100);
-        x.order(0, 60, 15, 7, 1);
-        x.order(1, 55, 10, 9, 0);
-        x.order(0, 70, 20, 9, 0);
-        x.order(0, 50, 10, 9, 0);
+        x.store(1, 200);
+        x.order(0, 60, 30, 7, 1);
+        x.order(1, 55, 20, 9, 0);
+        x.order(0, 50, 25, 9, 0);
+        x.order(1, 50, 15, 9, 0);
+        return x;
+    }
+
+    private static WeaveShares richThen() {
+        WeaveShares x = rich();
+        x.pass(4);
         return x;
     }
 
