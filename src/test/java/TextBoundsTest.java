@@ -24,6 +24,7 @@ public final class TextBoundsTest {
 
     private static void parts() {
         Check.sentence("one or more parts with \";\" between them", TextBoundsTest::marksBetween);
+        Check.sentence("one or more parts", TextBoundsTest::laterParts);
         Check.sentence("each a length, 1 to 200", () -> numbers("", "x40c0", 3, 1, 200));
         Check.sentence("\"x\", a width, 40 to 200", () -> numbers("1x", "c0", 2, 40, 200));
         Check.sentence("\"c\" and a colour, 0 to 3", () -> numbers("1x40c", "", 1, 0, 3));
@@ -166,6 +167,26 @@ public final class TextBoundsTest {
         error("1x40c;", 5);
         error("1x40c0$;", 7);
         error("1x40c0@;", 7);
+    }
+
+    /** What holds for the first part holds for each one behind it. */
+    private static void laterParts() {
+        String[][] parts = {{"0", "0"}, {"201", "2"}, {"01", "0"}, {"1x39", "2"}, {"1x201", "4"},
+            {"1x040", "2"}, {"1x40c4", "5"}, {"1x40c00", "6"}, {"1x40c0$0", "7"}, {"1x40c0$100", "9"},
+            {"1x40c0$01", "7"}, {"1x40c0@10000", "11"}, {"1x40c0@00", "8"}, {"1x40c0@1$1", "8"},
+            {"x", "0"}, {"1c", "1"}, {"1x40;", "4"}, {"1x40c;", "5"}};
+        for (String[] one : parts) {
+            int at = Integer.parseInt(one[1]);
+            error(one[0], at);
+            error("1x40c0;" + one[0], 7 + at);
+            error("200x200c3$99@9999;1x40c0@0;" + one[0], 27 + at);
+        }
+        WeaveShares x = Made.buffered("1x40c0;200x200c3$99@9999;1x40c0$1@0");
+        Check.due("takeAll() of the least and the greatest", x.takeAll(), 3);
+        int[] want = {1, 3, 200, 200, 99, 9999};
+        for (int what = 0; what < want.length; what++) {
+            Check.due("orderOf(2, " + what + ")", x.orderOf(2, what), what == 0 ? 1 : want[what]);
+        }
     }
 
     /** The numbers around the bounds, read at the property of the order. */

@@ -68,6 +68,14 @@ public final class WeaverBoundsTest {
         Check.due("firstError()", x.firstError(), 0);
         Check.due("clearBuffer()", x.clearBuffer(), 0);
         Check.due("append(33)", x.append(33), 1);
+        // What is done with one object does not show at another one, old or new.
+        WeaveShares y = new WeaveShares();
+        long hash = y.digest();
+        Made.busy();
+        Made.full();
+        Made.buffered("1x40c0").takeAll();
+        Check.that("an old object is as it was", hash == y.digest());
+        Check.that("a new object is new", hash == new WeaveShares().digest());
     }
 
     private static void sixWeavers() {
