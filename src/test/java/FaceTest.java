@@ -61,7 +61,18 @@ public final class FaceTest {
             boolean seen = Modifier.isPublic(method.getModifiers());
             Check.that(method + " is neither public nor private",
                     seen || Modifier.isPrivate(method.getModifiers()));
-            Check.that(method + " bears a public name", seen || !names.contains(method.getName()));
+        }
+        privateNames(WeaveShares.class, names);
+        for (Class<?> inside : WeaveShares.class.getDeclaredClasses()) {
+            privateNames(inside, names);
+        }
+    }
+
+    /** Rule 1 of the language says it of all private methods, wherever they stand. */
+    private static void privateNames(Class<?> one, Set<String> names) {
+        for (Method method : one.getDeclaredMethods()) {
+            Check.that(method + " bears a public name",
+                    !Modifier.isPrivate(method.getModifiers()) || !names.contains(method.getName()));
         }
     }
 

@@ -24,6 +24,12 @@ public final class LanguageTest {
             "UnsupportedOperationException", "NoSuchElementException", "RuntimeException");
     private static final Pattern METHOD = Pattern.compile(
             "^( {4}| {8})(public |private |static |final )*[\\w\\[\\]<>]+ \\w+\\(.*");
+    private static final Pattern TYPE = Pattern.compile(
+            "^(?:public | {4}private )(?:static |final )*class (\\w+)");
+    private static final Pattern METHOD_HEAD = Pattern.compile(
+            "^( {4}| {8})(public |private |static |final )*([\\w\\[\\]<>]+ )?\\w+\\(.*");
+    private static final Pattern FIELD = Pattern.compile(
+            "^( {4}| {8})(private )?final [\\w\\[\\]]+ \\w+ = new .*;");
 
     private LanguageTest() {
     }
@@ -45,6 +51,7 @@ public final class LanguageTest {
         Check.that("there are signs beyond 127", code.chars().allMatch(c -> c < 128));
         thrown(code);
         methods(lines);
+        made(code);
         Check.end("LanguageTest");
     }
 
@@ -57,6 +64,22 @@ public final class LanguageTest {
             Check.that("thrown: " + m.group(1), EXCEPTIONS.contains(m.group(1)));
         }
         Check.due("throws in all", code.split("\\bthrow ", -1).length - 1, thrown);
+    }
+
+    /** Rule 12: no call makes an object, so that a run of any length stays in its room. */
+    private static void made(String code) {
+        String type = "";
+        boolean constructing = false;
+        for (String line : code.split("\n")) {
+            Matcher head = TYPE.matcher(line);
+            type = head.find() ? head.group(1) : type;
+            if (!line.endsWith(";") && METHOD_HEAD.matcher(line).matches()) {
+                constructing = line.matches("(    |        )(public )?" + type + "\\(.*");
+            }
+            boolean makes = line.contains("new ") && !THROWN.matcher(line).find();
+            Check.that("a call makes an object: " + line,
+                    !makes || constructing || FIELD.matcher(line).matches());
+        }
     }
 
     /** Rule 11: methods stay short. */
